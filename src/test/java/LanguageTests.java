@@ -98,14 +98,24 @@ public final class LanguageTests {
     return text.replaceAll("(?s)/\\*.*?\\*/", "").replaceAll("//[^\\n]*", "");
   }
 
+  /** A method is what stands between a head and the brace at the head's own margin. */
   private static void methodsAreShort(String code) {
+    Pattern head = Pattern.compile("( {2}| {4})(?!if|for|while|switch)\\w.*\\) \\{");
+    String margin = null;
     int length = 0;
+    int methods = 0;
     for (String line : code.split("\n")) {
-      boolean begins = line.matches(" {2,4}\\S.*\\) \\{");
-      length = begins ? 0 : length + 1;
-      if (line.matches(" {2,4}\\}")) {
-        CHECK.holds("a method of " + length + " lines", length <= 60 || line.startsWith("  }"));
+      Matcher begins = head.matcher(line);
+      length++;
+      if (margin == null && begins.matches()) {
+        margin = begins.group(1);
+        length = 1;
+      } else if (margin != null && line.equals(margin + "}")) {
+        CHECK.holds("a method of " + length + " lines", length <= 60);
+        margin = null;
+        methods++;
       }
     }
+    CHECK.holds("methods were found: " + methods, methods > FACE.size());
   }
 }

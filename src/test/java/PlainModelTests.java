@@ -5,7 +5,7 @@ public final class PlainModelTests {
   private static final int RUNS = 800;
   /** An object is good for 512 calls; the last question may take several. */
   private static final int CALLS = 500;
-  private static final int[] ODD = {-1, -2, 2, 3, 4, 5, 6, 9, 24, 47, 63, 64, 100, 101, 1001,
+  private static final int[] ODD = {-1, -2, 2, 3, 4, 5, 6, 7, 9, 24, 47, 63, 64, 100, 101, 1001,
       Integer.MIN_VALUE, Integer.MAX_VALUE};
   private static final Check CHECK = new Check();
 

@@ -175,6 +175,10 @@ public final class PromiseTests {
     due("by the new rows", x.node(0, 1), 8);
     due("class of a new row", x.count(0, 1), 1);
     due("unknown of an old row", x.cutGain(0, 8, 1, 0), -3);
+    x.clear();
+    addByColumn0(x, new int[] {-1, 8, 9}, new int[] {1, 0, 1});
+    due("unknown where an old row was known", x.cutGain(0, 8, 1, 0), 4);
+    due("the greatest known value", x.cutGain(0, 9, 0, 0), -3);
     BestSplits kinds = threeKinds();
     kinds.clear();
     due("sorts stay", kinds.column(1, 0), 1);
@@ -380,6 +384,11 @@ public final class PromiseTests {
     due("leafOf(2)", x.leafOf(2), 2);
     for (int bad : new int[] {-1, 3, 24, LOW, HIGH}) {
       due("leafOf(" + bad + ")", x.leafOf(bad), -1);
+    }
+    BestSplits deep = alternating(24);
+    deep.settings(5, 1, 0);
+    for (int r = 0; r < 24; r++) {
+      due("a LEAF, however deep", deep.node(deep.leafOf(r), 0), -3);
     }
     BestSplits kinds = threeKinds();
     due("leafOf(1)", kinds.leafOf(1), 2);
