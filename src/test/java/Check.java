@@ -3,6 +3,12 @@ final class Check {
   private static final int MOST_LINES = 40;
   private int wrong = 0;
   private int seen = 0;
+  private String sentence = "";
+
+  /** The document's sentence that the next answers are about; it is told with each that is wrong. */
+  void says(String newSentence) {
+    sentence = newSentence + ": ";
+  }
 
   void due(String call, long got, long want) {
     seen++;
@@ -21,7 +27,7 @@ final class Check {
   private void say(String text) {
     wrong++;
     if (wrong <= MOST_LINES) {
-      System.out.println(text);
+      System.out.println(sentence + text);
     }
   }
 
