@@ -293,6 +293,9 @@ public final class BoundsOfChangesTests {
     due("no CUT at 0", x.cutGain(0, 0, 0, 0), -3);
     due("no CUT at 100", x.cutGain(0, 100, 0, 0), -3);
     due("what was known goes to its side", x.cutGain(0, 50, 1, 1), 3);
+    x.row(-1, 0, 0, 0, 0);
+    due("CUTS with UNKNOWN where no ROW was", x.cuts(), 2);
+    due("no CUT at 100, side 1", x.cutGain(0, 100, 1, 0), -3);
     BestSplits kinds = Given.byKinds(new int[] {0, 5, 3}, new int[] {0, 1, 2});
     due("CUTS before", kinds.cuts(), 3);
     kinds.clear();
